@@ -1,0 +1,89 @@
+import java.nio.charset.StandardCharsets;
+
+/** What the tests share: answers compared, and texts fed onto a tape. */
+final class Check {
+    private int right = 0;
+    private int wrong = 0;
+    private String head = "";
+
+    void head(String text) {
+        head = text;
+    }
+
+    void due(String call, long got, long want) {
+        if (got == want) {
+            right++;
+            return;
+        }
+        wrong++;
+        if (wrong <= 40) {
+            System.out.println(head + ": " + call + " answered " + got + ", due is " + want);
+        }
+    }
+
+    void due(String call, String got, String want) {
+        due(call + " '" + got + "' like '" + want + "'", got.equals(want) ? 1 : 0, 1);
+    }
+
+    boolean hasWrong() {
+        return wrong > 0;
+    }
+
+    /** Ends the machine with 1 if an answer was wrong, or if there was none at all. */
+    void close() {
+        System.out.println(right + " answers as due, " + wrong + " not");
+        if (wrong > 0 || right == 0) {
+            System.exit(1);
+        }
+    }
+
+    /** The text alone is on the tape then. */
+    static void tape(StyledRuns x, String text) {
+        x.end(0);
+        byte[] bytes = text.getBytes(StandardCharsets.ISO_8859_1);
+        for (int k = 0; k < bytes.length; k += 20) {
+            x.feed(four(bytes, k), four(bytes, k + 4), four(bytes, k + 8), four(bytes, k + 12), four(bytes, k + 16));
+        }
+        x.end(bytes.length);
+    }
+
+    static int four(byte[] bytes, int k) {
+        int number = 0;
+        for (int j = k; j < k + 4; j++) {
+            number = number << 8 | (j < bytes.length ? bytes[j] & 255 : 0);
+        }
+        return number;
+    }
+
+    static String tapeOf(StyledRuns x) {
+        StringBuilder text = new StringBuilder();
+        for (int k = 0; x.tape(k) != StyledRuns.NONE; k++) {
+            text.append((char) x.tape(k));
+        }
+        return text.toString();
+    }
+
+    static String lettersOf(StyledRuns x) {
+        StringBuilder text = new StringBuilder();
+        for (int k = 0; x.letter(k) != StyledRuns.NONE; k++) {
+            text.append((char) x.letter(k));
+        }
+        return text.toString();
+    }
+
+    /** A new object with these letters, all plain. */
+    static StyledRuns typed(String letters) {
+        StyledRuns x = new StyledRuns();
+        tape(x, letters);
+        x.type(0);
+        return x;
+    }
+
+    /** A new object with what a marked text says. */
+    static StyledRuns marked(String text) {
+        StyledRuns x = new StyledRuns();
+        tape(x, text);
+        x.read();
+        return x;
+    }
+}
