@@ -26,6 +26,8 @@ public final class PromisesTest {
         writeCall();
         undoCall();
         undoBringsAllBack();
+        undoneLeavesNothing();
+        fullObject();
         imageBack();
         letterStyleRun();
         stackTells();
@@ -173,6 +175,9 @@ public final class PromisesTest {
         due("PLAIN without one ahead", bold.style(0, 6), 4);
         type(bold, "X", 2);
         due("paint at the end", bold.style(2, 6), 104);
+        StyledRuns one = Check.marked("[b]a[/b]");
+        type(one, "X", 1);
+        due("paint at 1", one.style(1, 6), 104);
     }
 
     private static void cutCall() {
@@ -765,6 +770,79 @@ public final class PromisesTest {
         due("style after read()", x.style(1, 6), 335);
     }
 
+    /** Spans and anchors whose coming was undone are not there, whatever is asked. */
+    private static void undoneLeavesNothing() {
+        check.head("promise 20, what came is gone");
+        StyledRuns x = typed("abcdef");
+        due("style ahead", x.style(1, 6), 4);
+        x.lay(0, 4, 0, 1, 0, 2, 1, 0);
+        x.lay(1, 5, 0, 1, 0, 2, 1, 0);
+        x.pin(3, 0);
+        x.cut(2, 5);
+        due("style", x.style(1, 6), 126);
+        for (int k = 0; k < 4; k++) {
+            x.undo();
+        }
+        due("style", x.style(1, 6), 4);
+        due("RUNS", x.count(1), 1);
+        due("SPANS", x.count(2), 0);
+        due("ANCHORS", x.count(3), 0);
+        due("SPANS over a letter", x.count(9), 0);
+        due("LOST", x.count(10), 0);
+        due("stack()", x.stack(1, 0), NONE);
+        due("tells()", x.tells(1, 0), NONE);
+        due("idle()", x.idle(), 0);
+        due("crossed()", x.crossed(), NONE);
+        due("span()", x.span(0, 0), LOWEST);
+        due("anchor()", x.anchor(0, 0), NONE);
+        due("raised()", x.raised(0, 0), NONE);
+        due("best()", x.best(0, 0), NONE);
+        due("lift()", x.lift(0), -2);
+        due("unpin()", x.unpin(0), -2);
+        due("set()", x.set(0, 0, 0), -2);
+        due("stretch()", x.stretch(0, 0, 1), -2);
+        due("move() takes none along", x.move(0, 5, 6), 0);
+        due("fast()", x.fast(), 0);
+        x.lay(0, 4, 0, 1, 0, 2, 1, 0);
+        x.pin(3, 0);
+        Check.tape(x, "abc");
+        x.read();
+        due("lift() behind read()", x.lift(0), -2);
+        due("unpin() behind read()", x.unpin(0), -2);
+        due("style() behind read()", x.style(0, 6), 4);
+        due("idle() behind read()", x.idle(), 0);
+    }
+
+    /** As many letters, spans and anchors as there can be. */
+    private static void fullObject() {
+        check.head("full");
+        StyledRuns x = typed(repeated("ab", 99));
+        for (int k = 0; k < 16; k++) {
+            x.lay(k, 198 - k, k % 10, 1 << k % 4, 0, k % 8, k % 4, k % 4);
+        }
+        for (int k = 0; k < 12; k++) {
+            x.pin(198 - k, k % 2);
+        }
+        due("type() to 200", type(x, "yz", 198), 200);
+        due("PLACE of a leaning one", x.anchor(1, 0), 197);
+        due("PLACE of one that stays", x.anchor(0, 0), 198);
+        due("move() to the end", x.move(0, 100, 200), 0);
+        due("LETTER 99", x.letter(99), 'z');
+        due("move() to the beginning", x.move(100, 200, 0), 0);
+        due("LETTER 199", x.letter(199), 'z');
+        due("image()", x.image(1), 200);
+        due("SPANS over a letter", x.count(9), 16);
+        due("fast()", x.fast(), 16);
+        due("idle()", x.idle(), 0);
+        due("cut all", x.cut(0, 200), 0);
+        due("back()", x.back(1), 200);
+        due("cut() of the last", x.cut(199, 200), 199);
+        due("stack() of 16", x.stack(100, 15), 9);
+        due("stack() beyond", x.stack(100, 16), NONE);
+        Check.tape(x, "y");
+        due("find() at the end", x.find(0), 198);
+    }
+
     private static void imageBack() {
         check.head("promises 21 and 22");
         StyledRuns x = typed("abcdef");
@@ -843,7 +921,10 @@ public final class PromisesTest {
                 due("run(" + k + ", " + what + ")", x.run(k, what), runs[k][what]);
             }
         }
-        due("run(5, 0)", x.run(5, 0), NONE);
+        for (int what = 0; what < 5; what++) {
+            due("run(5, " + what + ")", x.run(5, what), NONE);
+            due("run(-1, " + what + ")", x.run(-1, what), NONE);
+        }
         due("run(0, -1)", x.run(0, -1), NONE);
         due("run(0, 5)", x.run(0, 5), NONE);
         StyledRuns like = typed("abcd");
@@ -966,6 +1047,11 @@ public final class PromisesTest {
         due("find() of more", x.find(0), NONE);
         Check.tape(x, "[b]");
         due("find() of no letters", x.find(0), NONE);
+        StyledRuns small = Check.marked("a[z0]b[/z][z9]b[/z]");
+        Check.tape(small, "bb");
+        due("find() of any style", small.find(0), 1);
+        small.cut(2, 3);
+        due("find() not beyond the end", small.find(0), NONE);
         Check.tape(x, "a");
         x.lay(0, 3, 0, 4, 1, NONE, 0, 0);
         due("findBy() by spans", x.findBy(1, 5, 4, NONE, 0, 9), 2);
@@ -1141,6 +1227,15 @@ public final class PromisesTest {
         due("best(0, -1)", x.best(0, -1), NONE);
         due("best(0, 2)", x.best(0, 2), NONE);
         x.lift(0);
+        StyledRuns low = typed("abcdef");
+        low.lay(2, 4, 5, 0, 0, 5, 0, 0);
+        low.lay(0, 6, 0, 0, 0, 3, 0, 0);
+        due("best is 0", low.best(0, 0), 0);
+        due("RUNS by 0", low.best(0, 1), 1);
+        low.set(0, 0, 0);
+        low.lay(2, 4, 0, 0, 0, 6, 0, 0);
+        due("best is 1", low.best(1, 0), 1);
+        due("RUNS by 1", low.best(1, 1), 1);
         due("best() of one that is gone", x.best(0, 0), NONE);
         due("best(1, 0), all alike", x.best(1, 0), 0);
         due("best(1, 1)", x.best(1, 1), 3);
@@ -1197,6 +1292,11 @@ public final class PromisesTest {
         x.cut(0, 1);
         due("the longest RUN", x.count(6), 2);
         due("the first of these", x.count(7), 1);
+        StyledRuns single = typed("a");
+        single.lay(0, 1, 0, 0, 0, NONE, 0, 0);
+        due("a RUN of one", single.count(6), 1);
+        due("SPANS over the first letter", single.count(9), 1);
+        due("STYLES of two runs of three", Check.marked("a[b]b[/b]c").count(8), 2);
         StyledRuns y = typed("abcdef");
         y.pin(2, 0);
         y.pin(3, 0);
