@@ -28,6 +28,7 @@ public final class EdgesTest {
         write();
         undoKeepsEight();
         undoOfEachAct();
+        numbersComeBack();
         imageAndBack();
         letterAndStyle();
         run();
@@ -44,6 +45,7 @@ public final class EdgesTest {
         raisedAndBest();
         crossed();
         countsOfTheFull();
+        actsOnTheFull();
         countsOfRuns();
         statusOfEach();
         check.close();
@@ -493,7 +495,9 @@ public final class EdgesTest {
         due("fewer again", readOf(x, "a"), 1);
         due("letter(1)", x.letter(1), NONE);
         due("400 bytes of marks", readOf(x, "[b][/b]".repeat(57) + "x"), 1);
-        due("200 LETTERS in 400 bytes", readOf(x, "[c1]" + "a".repeat(200) + "[/c]" + "[i][/i]".repeat(26) + "[c0][/c]"), 200);
+        String most = "[c1]" + "a".repeat(200) + "[/c]" + "[c0][/c]".repeat(24);
+        due("400 bytes", most.length(), 400);
+        due("200 LETTERS in 400 bytes", readOf(x, most), 200);
     }
 
     private static void fault() {
@@ -504,7 +508,10 @@ public final class EdgesTest {
         due("of the latest", x.fault(), 2);
         readOf(x, "[/b]");
         due("FAULT 0", x.fault(), 0);
-        readOf(x, "[b]abc[/b]");
+        readOf(x, "[b][c1]");
+        due("marks are open", x.fault(), 7);
+        due("none of them in the next", readOf(x, "abc"), 3);
+        due("PLAIN", x.style(0, 6), 4);
         due("without one", x.fault(), NONE);
         readOf(x, "a]");
         due("FAULT 1", x.fault(), 1);
@@ -598,6 +605,8 @@ public final class EdgesTest {
         int answer = call.applyAsInt(x);
         due(act + " is not refused: " + answer, answer >= 0 ? 1 : 0, 1);
         due(act + " can be undone", x.count(12), 6);
+        // STYLES are asked ahead of undo(), so that none that was told then may be told again.
+        x.count(8);
         due(act + " is told", x.undo(), told);
         x.end(0);
         check.due(act + " is undone", Seen.now(x), Seen.now(twin));
@@ -636,16 +645,51 @@ public final class EdgesTest {
         check.due("refused", Seen.refusals(x), "refused 0 0 1 0 0 1");
     }
 
+    /** SPAN 0 and ANCHOR 0 come, then by read() others of these numbers. */
+    private static StyledRuns numbersTwice() {
+        StyledRuns x = typed("abcdef");
+        x.lay(1, 4, 3, 5, 2, 6, -3, 1);
+        x.pin(3, 1);
+        x.image(0);
+        readOf(x, "ghi");
+        x.lay(0, 2, 7, 8, 4, NONE, 2, 2);
+        x.pin(1, 0);
+        return x;
+    }
+
+    private static void dueFirstOfTheNumbers(String by, StyledRuns x) {
+        int[] due = {1, 4, 3, 5, 2, 6, -3, 1};
+        for (int what = 0; what < due.length; what++) {
+            due(by + ", span(0, " + what + ")", x.span(0, what), due[what]);
+        }
+        due(by + ", PLACE", x.anchor(0, 0), 3);
+        due(by + ", LEAN", x.anchor(0, 1), 1);
+        due(by + ", style(2, 6)", x.style(2, 6), 561);
+    }
+
+    private static void numbersComeBack() {
+        check.head("promises 20 and 22: SPANS, ANCHORS whose numbers others had in between are as they were");
+        StyledRuns x = numbersTwice();
+        due("undo() of pin(), lay(), read()", 10000 * x.undo() + 100 * x.undo() + x.undo(), 90311);
+        dueFirstOfTheNumbers("undo()", x);
+        StyledRuns y = numbersTwice();
+        due("back()", y.back(0), 6);
+        dueFirstOfTheNumbers("back()", y);
+    }
+
     private static void imageAndBack() {
         check.head("promise 21: IMAGE k (0, 1) is kept, of all but the TAPE, FAULT, .. what can be undone");
         StyledRuns x = fiveActs();
         String first = Seen.standing(fiveActs());
+        Check.tape(x, "mn");
         due("image(1)", x.image(1), 8);
+        check.due("the TAPE stays", Check.tapeOf(x), "mn");
         due("acts stay", x.count(12), 5);
         x.fast();
         x.cut(0, 3);
         due("image(0) in place of the other", x.image(0), 5);
         readOf(x, "z");
+        due("RUNS ahead of back()", x.count(1), 1);
         due("back(1)", x.back(1), 8);
         check.due("as it was", Seen.standing(x), first);
         due("nothing can be undone then", x.undo(), -4);
@@ -658,6 +702,11 @@ public final class EdgesTest {
         due("SPANS", x.count(2), 0);
         due("numbers given", x.count(4), 2);
         due("refused are told still", x.count(16), 1);
+        check.head("promise 20: undo() leaves IMAGES");
+        typeAt(x, "q", 0);
+        due("image(1)", x.image(1), 6);
+        due("undo()", x.undo(), 0);
+        due("back(1)", x.back(1), 6);
         check.head("promise 22: the TAPE stays");
         Check.tape(x, "mn");
         due("back(0)", x.back(0), 5);
@@ -723,6 +772,14 @@ public final class EdgesTest {
         for (int what : new int[] {-1, 5, LOWEST, HIGHEST}) {
             due("run(0, " + what + ")", x.run(0, what), NONE);
         }
+        check.head("promise 25: how many LETTERS (1), to the end of the text");
+        StyledRuns full = typed("a".repeat(200));
+        due("200 LETTERS", full.run(0, 1), 200);
+        full.cut(100, 200);
+        due("100 were cut", full.run(0, 1), 100);
+        full.paint(99, 100, 1, 0, NONE, 0);
+        due("the last alone", full.run(1, 1), 1);
+        due("all but the last", full.run(0, 1), 99);
     }
 
     private static void stackAndTells() {
@@ -781,6 +838,17 @@ public final class EdgesTest {
             due("span(" + k + ", 8)", x.span(k, 8), k == 2 ? 1 : 0);
         }
         due("RUNS stay", x.count(1), 5);
+        check.head("promise 28: without it the others stay on their LAYERS");
+        StyledRuns z = typed("abc");
+        z.lay(0, 3, 9, 0, 0, 1, 0, 0);
+        z.lay(1, 2, 5, 0, 0, 2, 0, 0);
+        z.lay(1, 2, 7, 0, 0, NONE, 0, 0);
+        due("RUNS", z.count(1), 1);
+        due("span(0, 9)", z.span(0, 9), 3);
+        due("span(1, 9)", z.span(1, 9), 1);
+        due("span(2, 9)", z.span(2, 9), 1);
+        due("span(2, 8)", z.span(2, 8), 1);
+        due("idle()", z.idle(), 6);
         check.head("promise 28: more RUNS without it");
         StyledRuns y = Check.marked("a[b]b[/b]c");
         y.lay(0, 3, 0, 0, 15, NONE, 0, 0);
@@ -861,6 +929,9 @@ public final class EdgesTest {
         Check.tape(again, "aab");
         due("begun anew", again.find(0), 0);
         due("behind the first", again.find(1), 3);
+        StyledRuns any = Check.marked("[b][i][u][s][c7][z0]a[/z][/c][/s][/u][/i][/b]b[z9]c[/z]");
+        Check.tape(any, "abc");
+        due("of any STYLE", any.find(0), 0);
         StyledRuns shorter = typed("abcd");
         shorter.cut(2, 4);
         Check.tape(shorter, "bc");
@@ -915,6 +986,11 @@ public final class EdgesTest {
         for (int[] c : calls) {
             due("styled() of " + java.util.Arrays.toString(c), x.styled(c[0], c[1], c[2], c[3], c[4]), c[5]);
         }
+        x.lay(2, 3, 0, 1, 0, 7, 0, 0);
+        due("by STYLE, not PAINT", x.styled(0, 1, 1, NONE, 1), 5);
+        due("by STYLE, its COLOR", x.styled(0, 0, 0, 7, 2), 2);
+        x.undo();
+        due("undone", x.styled(0, 1, 1, NONE, 1), 2);
         StyledRuns full = typed("a".repeat(200));
         due("200 side by side", full.styled(0, 15, 0, 0, 1), 200);
         due("200 at all", full.styled(0, 15, 0, 0, 2), 200);
@@ -1090,7 +1166,17 @@ public final class EdgesTest {
         due("its RUNS", y.best(0, 1), 1);
         y.set(1, 0, 3);
         due("4, the least of 4 .. 9", y.best(0, 0), 4);
+        y.set(1, 0, 0);
+        due("1, the least of 1 .. 9", y.best(0, 0), 1);
         due("LAYER stays", y.span(0, 2), 0);
+        StyledRuns z = typed("abc");
+        z.lay(1, 2, 5, 0, 0, 2, 0, 0);
+        due("fewer without it", z.span(0, 9), 1);
+        due("all alike", z.best(0, 0), 0);
+        due("RUNS with it", z.best(0, 1), 3);
+        z.lay(0, 3, 0, 0, 0, 1, 0, 0);
+        due("LAYER 0 alone", z.best(0, 0), 0);
+        due("its RUNS", z.best(0, 1), 1);
     }
 
     private static void crossed() {
@@ -1140,6 +1226,7 @@ public final class EdgesTest {
         for (int what = 0; what < due.length; what++) {
             due("count(" + what + ")", x.count(what), due[what]);
         }
+        due("idle()", x.idle(), 0xFFFF);
         due("cut(0, 200)", x.cut(0, 200), 0);
         int[] cut = {0, 0, 0, 12, 16, 12, 0, NONE, 0, 0, 12, 0, 8, 400};
         for (int what = 0; what < cut.length; what++) {
@@ -1159,6 +1246,37 @@ public final class EdgesTest {
         }
         due("count(11)", most.count(11), 200 + 100 * 44);
         due("write()", most.write(), -5);
+    }
+
+    private static void actsOnTheFull() {
+        check.head("acts on as much as there can be");
+        StyledRuns x = typed("a".repeat(199));
+        for (int k = 0; k < 16; k++) {
+            x.lay(k, 199 - k, k % 10, 1 << k % 4, 0, k % 8, 0, k % 4);
+        }
+        for (int k = 0; k < 12; k++) {
+            x.pin(199 - k, k % 2);
+        }
+        due("type() ahead of all", typeAt(x, "b", 0), 200);
+        due("the last ANCHOR", x.anchor(11, 0), 189);
+        due("the last SPAN", x.span(15, 1), 185);
+        due("move() to the end", x.move(0, 1, 200), 0);
+        due("the last ANCHOR", x.anchor(11, 0), 188);
+        due("the last SPAN", x.span(15, 0), 15);
+        due("swap() is above", swapFor(x, "c", 0, 200), -5);
+        due("cut() of one", x.cut(0, 1), 199);
+        due("the last ANCHOR", x.anchor(11, 0), 187);
+        due("swap() of all", swapFor(x, "c", 0, 199), 1);
+        due("undo()", x.undo(), 12);
+        due("undo()", x.undo(), 1);
+        due("paint()", x.paint(0, 200, 0, 0, 3, 0), 200);
+        due("image()", x.image(0), 200);
+        due("fast()", x.fast(), 16);
+        due("SPANS", x.count(2), 0);
+        due("back()", x.back(0), 200);
+        due("SPANS", x.count(2), 16);
+        due("lift() of the last", x.lift(15), 15);
+        due("unpin() of the last", x.unpin(11), 188);
     }
 
     private static void countsOfRuns() {
@@ -1186,6 +1304,8 @@ public final class EdgesTest {
         due("two over the last", y.count(9), 2);
         y.lift(3);
         due("one again", y.count(9), 1);
+        layOver(y, 0, 1);
+        due("two over the first", y.count(9), 2);
     }
 
     /** Refused, then not, by each of the sixteen calls; other calls leave what is told. */

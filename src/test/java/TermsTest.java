@@ -333,6 +333,11 @@ public final class TermsTest {
         Check.tape(y, "X");
         y.type(1);
         due("PAINT, not STYLE", y.style(1, 6), 4);
+        StyledRuns z = Check.marked("[u]a[/u]b");
+        Check.tape(z, "X");
+        z.type(1);
+        due("at 1, of LETTER 0", paintOf(z, 1), 404);
+        due("what was at 1", paintOf(z, 2), 4);
         due("onto a text that was emptied", emptiedAndTyped().style(0, 6), 4);
     }
 
@@ -426,8 +431,8 @@ public final class TermsTest {
         check.head("II: ANCHORS with p below their PLACE below q go with them; none is LOST");
         for (int lean = 0; lean < 2; lean++) {
             StyledRuns x = Check.typed("abcdefghij");
-            int[] pins = {2, 3, 4, 5, 6, 7, 8, 9};
-            int[] due = {2, 3, 7, 3, 4, 5, 6 + 2 * lean, 9};
+            int[] pins = {6, 2, 3, 4, 5, 7, 8, 9};
+            int[] due = {4, 2, 3, 7, 3, 5, 6 + 2 * lean, 9};
             anchorsMoved(x, pins, due, lean, 3, 5, 8);
         }
     }
@@ -574,6 +579,15 @@ public final class TermsTest {
         due("span(5, 8)", x.span(5, 8), 0);
         due("span(4, 8)", x.span(4, 8), 0);
         due("span(3, 8)", x.span(3, 8), 1);
+        StyledRuns ends = Check.typed("abc");
+        ends.paint(1, 3, 1, 0, NONE, 0);
+        ends.lay(0, 3, 0, 1, 0, NONE, 0, 0);
+        due("LETTER 0 alone another", ends.idle(), 0);
+        ends.paint(0, 2, 1, 0, NONE, 0);
+        ends.paint(2, 3, 0, 1, NONE, 0);
+        due("the last alone another", ends.idle(), 0);
+        ends.paint(2, 3, 1, 0, NONE, 0);
+        due("none another", ends.idle(), 1);
     }
 
     // ---- Terms III: marks ----

@@ -1,4 +1,5 @@
 import java.nio.charset.StandardCharsets;
+import java.util.function.IntUnaryOperator;
 
 /** What the tests share: answers compared, and texts fed onto a tape. */
 final class Check {
@@ -55,18 +56,21 @@ final class Check {
         return number;
     }
 
+    /** One call a byte, since an object is used for 512 calls at most. */
     static String tapeOf(StyledRuns x) {
-        StringBuilder text = new StringBuilder();
-        for (int k = 0; x.tape(k) != StyledRuns.NONE; k++) {
-            text.append((char) x.tape(k));
-        }
-        return text.toString();
+        return signs(x::tape, 400);
     }
 
     static String lettersOf(StyledRuns x) {
+        return signs(x::letter, 200);
+    }
+
+    private static String signs(IntUnaryOperator row, int most) {
         StringBuilder text = new StringBuilder();
-        for (int k = 0; x.letter(k) != StyledRuns.NONE; k++) {
-            text.append((char) x.letter(k));
+        int sign = row.applyAsInt(0);
+        for (int k = 1; k <= most && sign != StyledRuns.NONE; k++) {
+            text.append((char) sign);
+            sign = row.applyAsInt(k);
         }
         return text.toString();
     }
