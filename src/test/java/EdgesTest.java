@@ -59,21 +59,6 @@ public final class EdgesTest {
         return Check.typed(letters);
     }
 
-    private static int typeAt(StyledRuns x, String text, int place) {
-        Check.tape(x, text);
-        return x.type(place);
-    }
-
-    private static int swapFor(StyledRuns x, String text, int from, int to) {
-        Check.tape(x, text);
-        return x.swap(from, to);
-    }
-
-    private static int readOf(StyledRuns x, String text) {
-        Check.tape(x, text);
-        return x.read();
-    }
-
     private static int layOver(StyledRuns x, int from, int to) {
         return x.lay(from, to, 0, 1, 0, NONE, 0, 0);
     }
@@ -127,7 +112,7 @@ public final class EdgesTest {
         due("end(0)", new StyledRuns().end(0), 0);
         StyledRuns x = new StyledRuns();
         StyledRuns y = new StyledRuns();
-        typeAt(x, "abc", 0);
+        Check.type(x, "abc", 0);
         due("an object is for itself", y.count(0), 0);
         due("its TAPE, too", y.count(13), 0);
     }
@@ -212,19 +197,19 @@ public final class EdgesTest {
     private static void type() {
         check.head("promise 5: All bytes of the TAPE (empty then) come as LETTERS at a PLACE: how many there are");
         StyledRuns x = new StyledRuns();
-        due("one byte", typeAt(x, "m", 0), 1);
+        due("one byte", Check.type(x, "m", 0), 1);
         due("the TAPE is empty", x.count(13), 0);
-        due("ahead of all", typeAt(x, "ab", 0), 3);
-        due("behind all", typeAt(x, "yz", 3), 5);
-        due("between", typeAt(x, "  ", 3), 7);
+        due("ahead of all", Check.type(x, "ab", 0), 3);
+        due("behind all", Check.type(x, "yz", 3), 5);
+        due("between", Check.type(x, "  ", 3), 7);
         check.due("letters", Check.lettersOf(x), "abm  yz");
-        due("193 more: 200", typeAt(x, "q".repeat(193), 7), 200);
+        due("193 more: 200", Check.type(x, "q".repeat(193), 7), 200);
         due("letter(199)", x.letter(199), 'q');
-        due("one more", typeAt(x, "q", 0), -5);
+        due("one more", Check.type(x, "q", 0), -5);
         due("the TAPE stays", x.count(13), 1);
         due("undone: 7", x.undo(), 0);
         due("then it has room", x.type(7), 8);
-        due("all 200 at once", typeAt(new StyledRuns(), "~".repeat(200), 0), 200);
+        due("all 200 at once", Check.type(new StyledRuns(), "~".repeat(200), 0), 200);
     }
 
     private static void cut() {
@@ -250,13 +235,13 @@ public final class EdgesTest {
     private static void swap() {
         check.head("promise 7: they come at PLACE from and 1, then LETTER from goes, then those that lie behind them now");
         StyledRuns x = typed("abcdef");
-        due("one for the first", swapFor(x, "X", 0, 1), 6);
-        due("one for the last", swapFor(x, "YZ", 5, 6), 7);
+        due("one for the first", Check.swap(x, "X", 0, 1), 6);
+        due("one for the last", Check.swap(x, "YZ", 5, 6), 7);
         check.due("letters", Check.lettersOf(x), "XbcdeYZ");
         due("the TAPE is empty", x.count(13), 0);
-        due("fewer", swapFor(x, "-", 1, 5), 4);
+        due("fewer", Check.swap(x, "-", 1, 5), 4);
         check.due("letters", Check.lettersOf(x), "X-YZ");
-        due("all", swapFor(x, "abcde", 0, 4), 5);
+        due("all", Check.swap(x, "abcde", 0, 4), 5);
         check.due("letters", Check.lettersOf(x), "abcde");
         for (int sides = 0; sides < 4; sides++) {
             StyledRuns y = typed("abcdef");
@@ -265,7 +250,7 @@ public final class EdgesTest {
             y.lay(1, 2, 0, 1, 0, NONE, 0, sides);
             y.lay(3, 5, 0, 1, 0, NONE, 0, sides);
             y.lay(3, 4, 0, 1, 0, NONE, 0, sides);
-            swapFor(y, "XYZ", 2, 4);
+            Check.swap(y, "XYZ", 2, 4);
             String name = "sides " + sides + ", ";
             boolean on = sides >= 2;
             dueSpan(name + "over LETTER from", y, 0, on ? 2 : LOWEST, on ? 5 : LOWEST);
@@ -276,7 +261,7 @@ public final class EdgesTest {
             dueSpan(name + "over the second", y, 4, gone ? LOWEST : 2, gone ? LOWEST : 5);
         }
         StyledRuns z = Check.marked("[b]a[/b][i]b[/i][u]c[/u]");
-        swapFor(z, "XY", 1, 3);
+        Check.swap(z, "XY", 1, 3);
         due("PAINT of LETTER from", z.style(1, 6), 204);
         due("PAINT of the second", z.style(2, 6), 204);
         due("PAINT at 0", z.style(0, 6), 104);
@@ -290,12 +275,12 @@ public final class EdgesTest {
     private static void swapAtTheLimit() {
         check.head("promise 7: -5 (above 200 when they have come)");
         StyledRuns x = typed("a".repeat(150));
-        due("50 come: 200, one goes", swapFor(x, "b".repeat(50), 0, 1), 199);
-        due("one comes: 200, all go", swapFor(x, "c", 0, 199), 1);
+        due("50 come: 200, one goes", Check.swap(x, "b".repeat(50), 0, 1), 199);
+        due("one comes: 200, all go", Check.swap(x, "c", 0, 199), 1);
         StyledRuns y = typed("a".repeat(150));
-        due("51 come: 201", swapFor(y, "b".repeat(51), 0, 150), -5);
-        due("199 for one", swapFor(typed("a"), "b".repeat(199), 0, 1), 199);
-        due("200 for one", swapFor(typed("a"), "b".repeat(200), 0, 1), -5);
+        due("51 come: 201", Check.swap(y, "b".repeat(51), 0, 150), -5);
+        due("199 for one", Check.swap(typed("a"), "b".repeat(199), 0, 1), 199);
+        due("200 for one", Check.swap(typed("a"), "b".repeat(200), 0, 1), -5);
         check.head("promise 7: ANCHORS");
         StyledRuns z = typed("abcdef");
         int[] pins = {1, 2, 3, 4, 5};
@@ -303,7 +288,7 @@ public final class EdgesTest {
             z.pin(place, 0);
             z.pin(place, 1);
         }
-        due("swap(2, 5)", swapFor(z, "X", 2, 5), 4);
+        due("swap(2, 5)", Check.swap(z, "X", 2, 5), 4);
         int[] places = {1, 1, 2, 2, 2, 3, 3, 3, 3, 3};
         int[] lost = {0, 0, 0, 0, 0, 0, 1, 1, 0, 0};
         for (int k = 0; k < places.length; k++) {
@@ -383,9 +368,9 @@ public final class EdgesTest {
             due("set(0, " + s[0] + ", " + s[1] + ")", y.set(0, s[0], s[1]), s[2]);
             due("it is", y.span(0, s[0] == 0 ? 2 : 7), s[1]);
         }
-        typeAt(y, "X", 1);
+        Check.type(y, "X", 1);
         due("by its new SIDES, FROM", y.span(0, 0), 2);
-        typeAt(y, "X", 4);
+        Check.type(y, "X", 4);
         due("by its new SIDES, TO", y.span(0, 1), 4);
         check.head("promise 12: A SPAN lies over from .. to less 1 from now on: 0");
         int[][] ranges = {{0, 8}, {0, 1}, {7, 8}, {3, 5}, {3, 5}};
@@ -454,7 +439,7 @@ public final class EdgesTest {
         due("unpin(0)", x.unpin(0), 0);
         due("ANCHORS", x.count(3), 2);
         due("unpin(1)", x.unpin(1), 3);
-        typeAt(x, "XY", 0);
+        Check.type(x, "XY", 0);
         due("unpin(2), its PLACE now", x.unpin(2), 5);
         due("ANCHORS", x.count(3), 0);
         check.head("promise 15: LOST begins at 0 where an undone ANCHOR had some");
@@ -462,7 +447,7 @@ public final class EdgesTest {
         y.pin(2, 0);
         y.cut(1, 3);
         y.image(0);
-        readOf(y, "abcd");
+        Check.read(y, "abcd");
         due("pin()", y.pin(1, 0), 0);
         due("LOST", y.anchor(0, 2), 0);
         due("LOST of all", y.count(10), 0);
@@ -484,36 +469,36 @@ public final class EdgesTest {
         for (int what = 0; what < due.length; what++) {
             due("count(" + what + ")", x.count(what), due[what]);
         }
-        due("read()", readOf(x, "[b]ab[/b]"), 2);
+        due("read()", Check.read(x, "[b]ab[/b]"), 2);
         due("the TAPE is empty", x.count(13), 0);
         due("PAINT", x.style(1, 3), 1);
         due("lay()", layOver(x, 0, 2), 0);
         due("pin()", x.pin(0, 0), 0);
-        due("200 LETTERS", readOf(x, "a".repeat(200)), 200);
+        due("200 LETTERS", Check.read(x, "a".repeat(200)), 200);
         due("SPANS", x.count(2), 0);
         due("ANCHORS", x.count(3), 0);
-        due("fewer again", readOf(x, "a"), 1);
+        due("fewer again", Check.read(x, "a"), 1);
         due("letter(1)", x.letter(1), NONE);
-        due("400 bytes of marks", readOf(x, "[b][/b]".repeat(57) + "x"), 1);
+        due("400 bytes of marks", Check.read(x, "[b][/b]".repeat(57) + "x"), 1);
         String most = "[c1]" + "a".repeat(200) + "[/c]" + "[c0][/c]".repeat(24);
         due("400 bytes", most.length(), 400);
-        due("200 LETTERS in 400 bytes", readOf(x, most), 200);
+        due("200 LETTERS in 400 bytes", Check.read(x, most), 200);
     }
 
     private static void fault() {
         check.head("promise 18: FAULT of the latest read(); NONE without one, ahead of any");
         StyledRuns x = new StyledRuns();
         due("ahead of any", x.fault(), NONE);
-        readOf(x, "a[q]");
+        Check.read(x, "a[q]");
         due("of the latest", x.fault(), 2);
-        readOf(x, "[/b]");
+        Check.read(x, "[/b]");
         due("FAULT 0", x.fault(), 0);
-        readOf(x, "[b][c1]");
+        Check.read(x, "[b][c1]");
         due("marks are open", x.fault(), 7);
-        due("none of them in the next", readOf(x, "abc"), 3);
+        due("none of them in the next", Check.read(x, "abc"), 3);
         due("PLAIN", x.style(0, 6), 4);
         due("without one", x.fault(), NONE);
-        readOf(x, "a]");
+        Check.read(x, "a]");
         due("FAULT 1", x.fault(), 1);
         x.image(0);
         x.write();
@@ -528,9 +513,9 @@ public final class EdgesTest {
         due("of an empty TAPE: without one", x.fault(), NONE);
         x.undo();
         due("by undo() of read(), too", x.fault(), NONE);
-        readOf(x, "a]");
+        Check.read(x, "a]");
         x.image(1);
-        readOf(x, "a");
+        Check.read(x, "a");
         x.back(1);
         due("back() brings none back", x.fault(), NONE);
     }
@@ -564,7 +549,7 @@ public final class EdgesTest {
         check.head("promise 20: (8 are kept)");
         StyledRuns x = new StyledRuns();
         for (int k = 1; k <= 20; k++) {
-            typeAt(x, "a", 0);
+            Check.type(x, "a", 0);
             due("can be undone", x.count(12), Math.min(k, 8));
         }
         for (int k = 1; k <= 8; k++) {
@@ -616,7 +601,7 @@ public final class EdgesTest {
 
     private static void undoOfEachAct() {
         check.head("promise 20: all is as it was");
-        undoes(0, "type()", x -> typeAt(x, "xyz", 3));
+        undoes(0, "type()", x -> Check.type(x, "xyz", 3));
         undoes(1, "cut()", x -> x.cut(2, 7));
         undoes(1, "cut() of all", x -> x.cut(0, 8));
         undoes(2, "move()", x -> x.move(1, 5, 7));
@@ -630,13 +615,13 @@ public final class EdgesTest {
         undoes(8, "fast()", StyledRuns::fast);
         undoes(9, "pin()", x -> x.pin(0, 0));
         undoes(10, "unpin()", x -> x.unpin(0));
-        undoes(11, "read()", x -> readOf(x, "[i]x[/i]"));
+        undoes(11, "read()", x -> Check.read(x, "[i]x[/i]"));
         undoes(11, "read() of an empty TAPE", StyledRuns::read);
-        undoes(12, "swap()", x -> swapFor(x, "xyz", 2, 6));
+        undoes(12, "swap()", x -> Check.swap(x, "xyz", 2, 6));
         check.head("promise 20: all but the TAPE, FAULT, what is told of REFUSED calls");
         StyledRuns x = fiveActs();
         x.cut(2, 7);
-        readOf(x, "ab]");
+        Check.read(x, "ab]");
         Check.tape(x, "mn");
         x.lift(9);
         due("undo()", x.undo(), 1);
@@ -651,7 +636,7 @@ public final class EdgesTest {
         x.lay(1, 4, 3, 5, 2, 6, -3, 1);
         x.pin(3, 1);
         x.image(0);
-        readOf(x, "ghi");
+        Check.read(x, "ghi");
         x.lay(0, 2, 7, 8, 4, NONE, 2, 2);
         x.pin(1, 0);
         return x;
@@ -688,7 +673,7 @@ public final class EdgesTest {
         x.fast();
         x.cut(0, 3);
         due("image(0) in place of the other", x.image(0), 5);
-        readOf(x, "z");
+        Check.read(x, "z");
         due("RUNS ahead of back()", x.count(1), 1);
         due("back(1)", x.back(1), 8);
         check.due("as it was", Seen.standing(x), first);
@@ -703,7 +688,7 @@ public final class EdgesTest {
         due("numbers given", x.count(4), 2);
         due("refused are told still", x.count(16), 1);
         check.head("promise 20: undo() leaves IMAGES");
-        typeAt(x, "q", 0);
+        Check.type(x, "q", 0);
         due("image(1)", x.image(1), 6);
         due("undo()", x.undo(), 0);
         due("back(1)", x.back(1), 6);
@@ -715,7 +700,7 @@ public final class EdgesTest {
         check.head("promises 21 and 22: an empty and a full text");
         StyledRuns y = new StyledRuns();
         due("image(0) of none", y.image(0), 0);
-        typeAt(y, "a".repeat(200), 0);
+        Check.type(y, "a".repeat(200), 0);
         due("image(1) of 200", y.image(1), 200);
         due("back(0)", y.back(0), 0);
         due("letter(0)", y.letter(0), NONE);
@@ -891,7 +876,7 @@ public final class EdgesTest {
         for (int times = 1; times <= 3; times++) {
             y.cut(0, 2);
             due("LOST " + times + " times", y.anchor(0, 2), times);
-            typeAt(y, "X", 0);
+            Check.type(y, "X", 0);
             due("PLACE", y.anchor(0, 0), 1);
         }
     }
@@ -1042,7 +1027,7 @@ public final class EdgesTest {
         check.head("promise 34: the latest n (1 .. 8) acts that can be undone. NONE (not so many)");
         StyledRuns x = new StyledRuns();
         for (int k = 1; k <= 10; k++) {
-            typeAt(x, "a", 0);
+            Check.type(x, "a", 0);
             for (int n = 0; n <= 10; n++) {
                 int want = n >= 1 && n <= Math.min(k, 8) ? n : NONE;
                 due("n " + n + " of " + k, x.through(0, 1, n), want);
@@ -1066,7 +1051,7 @@ public final class EdgesTest {
         due("n 7", x.through(0, 1, 7), 7);
         check.head("promise 34: NONE (one of them was read())");
         StyledRuns y = typed("abc");
-        readOf(y, "abcd");
+        Check.read(y, "abcd");
         y.fast();
         y.cut(0, 1);
         due("n 2, behind it", y.through(4, 0, 2), 3);
@@ -1095,7 +1080,7 @@ public final class EdgesTest {
             for (int place = 0; place <= 6; place++) {
                 due("move(1, 3, 4) from " + place, x.through(place, lean, 1), moved[place]);
             }
-            swapFor(x, "XY", 1, 3);
+            Check.swap(x, "XY", 1, 3);
             int[] swapped = {0, 1, lean == 1 ? 3 : 1, 3, 4, 5, 6};
             for (int place = 0; place <= 6; place++) {
                 due("swap(1, 3) from " + place, x.through(place, lean, 1), swapped[place]);
@@ -1257,16 +1242,16 @@ public final class EdgesTest {
         for (int k = 0; k < 12; k++) {
             x.pin(199 - k, k % 2);
         }
-        due("type() ahead of all", typeAt(x, "b", 0), 200);
+        due("type() ahead of all", Check.type(x, "b", 0), 200);
         due("the last ANCHOR", x.anchor(11, 0), 189);
         due("the last SPAN", x.span(15, 1), 185);
         due("move() to the end", x.move(0, 1, 200), 0);
         due("the last ANCHOR", x.anchor(11, 0), 188);
         due("the last SPAN", x.span(15, 0), 15);
-        due("swap() is above", swapFor(x, "c", 0, 200), -5);
+        due("swap() is above", Check.swap(x, "c", 0, 200), -5);
         due("cut() of one", x.cut(0, 1), 199);
         due("the last ANCHOR", x.anchor(11, 0), 187);
-        due("swap() of all", swapFor(x, "c", 0, 199), 1);
+        due("swap() of all", Check.swap(x, "c", 0, 199), 1);
         due("undo()", x.undo(), 12);
         due("undo()", x.undo(), 1);
         due("paint()", x.paint(0, 200, 0, 0, 3, 0), 200);
@@ -1311,9 +1296,9 @@ public final class EdgesTest {
     /** Refused, then not, by each of the sixteen calls; other calls leave what is told. */
     private static void statusOfEach() {
         check.head("promise 40: What the latest call .. was REFUSED by; 0 if it was not");
-        granted("type()", x -> typeAt(x, "x", 0));
+        granted("type()", x -> Check.type(x, "x", 0));
         granted("cut()", x -> x.cut(0, 1));
-        granted("swap()", x -> swapFor(x, "x", 0, 1));
+        granted("swap()", x -> Check.swap(x, "x", 0, 1));
         granted("move()", x -> x.move(0, 1, 3));
         granted("lay()", x -> layOver(x, 0, 1));
         granted("lift()", x -> x.lift(0));
@@ -1322,7 +1307,7 @@ public final class EdgesTest {
         granted("paint()", x -> x.paint(0, 1, 1, 0, NONE, 0));
         granted("pin()", x -> x.pin(0, 0));
         granted("unpin()", x -> x.unpin(0));
-        granted("read()", x -> readOf(x, "x"));
+        granted("read()", x -> Check.read(x, "x"));
         granted("write()", StyledRuns::write);
         granted("undo()", StyledRuns::undo);
         granted("image()", x -> x.image(0));

@@ -58,16 +58,6 @@ public final class PromisesTest {
         return text.repeat(times);
     }
 
-    private static int type(StyledRuns x, String text, int place) {
-        Check.tape(x, text);
-        return x.type(place);
-    }
-
-    private static int swap(StyledRuns x, String text, int from, int to) {
-        Check.tape(x, text);
-        return x.swap(from, to);
-    }
-
     private static void newObject() {
         check.head("promise 1");
         StyledRuns x = new StyledRuns();
@@ -127,27 +117,27 @@ public final class PromisesTest {
         due("type() of an empty tape", x.type(0), -4);
         due("type(1) of an empty tape", x.type(1), -1);
         due("type(-1)", x.type(-1), -1);
-        due("type() first", type(x, "ad", 0), 2);
+        due("type() first", Check.type(x, "ad", 0), 2);
         due("the tape is empty", x.count(13), 0);
-        due("type() between", type(x, "bc", 1), 4);
-        due("type() at the end", type(x, "~ ", 4), 6);
+        due("type() between", Check.type(x, "bc", 1), 4);
+        due("type() at the end", Check.type(x, "~ ", 4), 6);
         check.due("letters", Check.lettersOf(x), "abcd~ ");
         String[] wrong = {"a[", "]a", "\037", "\177", "\200", "\377", "\0"};
         for (String text : wrong) {
-            due("type() of a byte that is none", type(x, text, 0), -1);
+            due("type() of a byte that is none", Check.type(x, text, 0), -1);
             due("the tape stays", x.count(13), text.length());
         }
-        due("type() beyond the end", type(x, "a", 7), -1);
-        due("type() far beyond", type(x, "a", HIGHEST), -1);
+        due("type() beyond the end", Check.type(x, "a", 7), -1);
+        due("type() far beyond", Check.type(x, "a", HIGHEST), -1);
         due("the tape stays", x.count(13), 1);
         StyledRuns full = typed(repeated("x", 199));
-        due("type() of 2 onto 199", type(full, "yy", 3), -5);
+        due("type() of 2 onto 199", Check.type(full, "yy", 3), -5);
         due("the tape stays", full.count(13), 2);
         due("nothing changes", full.count(0), 199);
-        due("type() of a bad byte is told ahead of no room", type(full, "y]", 3), -1);
-        due("type() of 1 onto 199", type(full, "y", 3), 200);
+        due("type() of a bad byte is told ahead of no room", Check.type(full, "y]", 3), -1);
+        due("type() of 1 onto 199", Check.type(full, "y", 3), 200);
         due("letter(3)", full.letter(3), 'y');
-        due("type() of 201 at once", type(new StyledRuns(), repeated("x", 201), 0), -5);
+        due("type() of 201 at once", Check.type(new StyledRuns(), repeated("x", 201), 0), -5);
     }
 
     private static void typeMovesPlaces() {
@@ -155,28 +145,28 @@ public final class PromisesTest {
         for (int sides = 0; sides < 4; sides++) {
             StyledRuns x = typed("abcdef");
             x.lay(2, 4, 0, 1, 0, NONE, 0, sides);
-            type(x, "XYZ", 2);
+            Check.type(x, "XYZ", 2);
             int from = (sides & 1) == 1 ? 5 : 2;
             due("FROM, sides " + sides, x.span(0, 0), from);
             due("TO behind, sides " + sides, x.span(0, 1), 7);
-            type(x, "Q", 7);
+            Check.type(x, "Q", 7);
             due("TO, sides " + sides, x.span(0, 1), (sides & 2) == 2 ? 8 : 7);
             due("FROM ahead, sides " + sides, x.span(0, 0), from);
         }
         StyledRuns x = Check.marked("a[b][c3]b[/c][/b]c");
-        type(x, "X", 0);
+        Check.type(x, "X", 0);
         due("paint at 0", x.style(0, 6), 4);
-        type(x, "YZ", 3);
+        Check.type(x, "YZ", 3);
         due("paint of the letter ahead", x.style(3, 6), 134);
         due("of the second, too", x.style(4, 6), 134);
         due("behind them", x.style(5, 6), 4);
         StyledRuns bold = Check.marked("[b]a[/b]");
-        type(bold, "X", 0);
+        Check.type(bold, "X", 0);
         due("PLAIN without one ahead", bold.style(0, 6), 4);
-        type(bold, "X", 2);
+        Check.type(bold, "X", 2);
         due("paint at the end", bold.style(2, 6), 104);
         StyledRuns one = Check.marked("[b]a[/b]");
-        type(one, "X", 1);
+        Check.type(one, "X", 1);
         due("paint at 1", one.style(1, 6), 104);
     }
 
@@ -222,18 +212,18 @@ public final class PromisesTest {
         StyledRuns x = typed("abcdef");
         due("swap(0, 1), empty tape", x.swap(0, 1), -4);
         due("swap(1, 1), empty tape", x.swap(1, 1), -1);
-        due("swap(2, 7)", swap(x, "X", 2, 7), -1);
-        due("swap(-1, 2)", swap(x, "X", -1, 2), -1);
-        due("swap(3, 2)", swap(x, "X", 3, 2), -1);
-        due("swap of a bad byte", swap(x, "X[", 2, 3), -1);
+        due("swap(2, 7)", Check.swap(x, "X", 2, 7), -1);
+        due("swap(-1, 2)", Check.swap(x, "X", -1, 2), -1);
+        due("swap(3, 2)", Check.swap(x, "X", 3, 2), -1);
+        due("swap of a bad byte", Check.swap(x, "X[", 2, 3), -1);
         due("the tape stays", x.count(13), 2);
-        due("swap(2, 3)", swap(x, "X", 2, 3), 6);
+        due("swap(2, 3)", Check.swap(x, "X", 2, 3), 6);
         due("the tape is empty", x.count(13), 0);
         check.due("letters", Check.lettersOf(x), "abXdef");
-        due("swap all", swap(x, "12", 0, 6), 2);
+        due("swap all", Check.swap(x, "12", 0, 6), 2);
         check.due("letters", Check.lettersOf(x), "12");
         StyledRuns p = Check.marked("a[b]b[/b][i]c[/i]d");
-        swap(p, "XY", 1, 3);
+        Check.swap(p, "XY", 1, 3);
         due("paint of the first that went", p.style(1, 6), 104);
         due("of the second, too", p.style(2, 6), 104);
         due("behind", p.style(3, 6), 4);
@@ -246,7 +236,7 @@ public final class PromisesTest {
             q.pin(place, 0);
             q.pin(place, 1);
         }
-        due("swap(2, 5)", swap(q, "XY", 2, 5), 5);
+        due("swap(2, 5)", Check.swap(q, "XY", 2, 5), 5);
         due("a SPAN over LETTER from that stays goes", q.span(0, 0), LOWEST);
         due("one that goes on lies over the new", q.span(1, 0), 2);
         due("its TO", q.span(1, 1), 4);
@@ -260,9 +250,9 @@ public final class PromisesTest {
             due("LOST " + k, q.anchor(k, 2), lost[k]);
         }
         StyledRuns full = typed(repeated("x", 199));
-        due("above 200 when they have come", swap(full, "yy", 0, 100), -5);
+        due("above 200 when they have come", Check.swap(full, "yy", 0, 100), -5);
         due("the tape stays", full.count(13), 2);
-        due("200 when they have come", swap(full, "y", 0, 100), 100);
+        due("200 when they have come", Check.swap(full, "y", 0, 100), 100);
     }
 
     private static void moveCall() {
@@ -510,7 +500,7 @@ public final class PromisesTest {
         }
         due("a 13th", x.pin(1, 0), -5);
         due("a 13th of a bad number", x.pin(1, 2), -1);
-        type(x, "xy", 3);
+        Check.type(x, "xy", 3);
         due("one that stays", x.anchor(1, 0), 0);
         x.undo();
         StyledRuns y = typed("abc");
@@ -614,7 +604,7 @@ public final class PromisesTest {
             due("fault() of " + texts[k], x.fault(), faults[k]);
         }
         due("refused by -6", x.count(18), texts.length);
-        type(x, "a", 0);
+        Check.type(x, "a", 0);
         due("fault() stays by other calls", x.fault(), 2);
         x.undo();
         due("fault() stays by undo()", x.fault(), 2);
@@ -666,7 +656,7 @@ public final class PromisesTest {
         full.paint(190, 191, 8, 0, NONE, 0);
         due("bytes", full.count(11), 399);
         due("write() of 399", full.write(), 399);
-        type(full, "z", 196);
+        Check.type(full, "z", 196);
         due("write() of 400", full.write(), 400);
         due("tape(399)", full.tape(399), 'z');
         due("read() of it", full.read(), 197);
@@ -681,7 +671,7 @@ public final class PromisesTest {
         StyledRuns x = new StyledRuns();
         due("none", x.undo(), -4);
         due("read()", x.read(), 0);
-        type(x, "abcdef", 0);
+        Check.type(x, "abcdef", 0);
         x.cut(5, 6);
         x.move(0, 1, 3);
         x.lay(0, 2, 0, 1, 0, NONE, 0, 0);
@@ -693,13 +683,13 @@ public final class PromisesTest {
         for (int k = 0; k < first.length; k++) {
             due("undo() " + k, x.undo(), first[k]);
         }
-        type(x, "abcdef", 0);
+        Check.type(x, "abcdef", 0);
         x.lay(0, 2, 0, 1, 0, NONE, 0, 0);
         x.lift(0);
         x.fast();
         x.pin(1, 1);
         x.unpin(0);
-        swap(x, "xy", 0, 1);
+        Check.swap(x, "xy", 0, 1);
         x.cut(0, 9);
         x.lift(7);
         x.write();
@@ -710,7 +700,7 @@ public final class PromisesTest {
         }
         StyledRuns y = typed("a");
         for (int k = 0; k < 10; k++) {
-            type(y, "b", 0);
+            Check.type(y, "b", 0);
         }
         due("8 are kept", y.count(12), 8);
         for (int k = 0; k < 8; k++) {
@@ -754,7 +744,7 @@ public final class PromisesTest {
         x.unpin(0);
         x.undo();
         due("unpinned", x.anchor(0, 1), 1);
-        type(x, "xyz", 0);
+        Check.type(x, "xyz", 0);
         x.undo();
         due("the tape is not brought back", x.count(13), 0);
         x.cut(-1, 0);
@@ -823,7 +813,7 @@ public final class PromisesTest {
         for (int k = 0; k < 12; k++) {
             x.pin(198 - k, k % 2);
         }
-        due("type() to 200", type(x, "yz", 198), 200);
+        due("type() to 200", Check.type(x, "yz", 198), 200);
         due("PLACE of a leaning one", x.anchor(1, 0), 197);
         due("PLACE of one that stays", x.anchor(0, 0), 198);
         due("move() to the end", x.move(0, 100, 200), 0);
@@ -885,7 +875,7 @@ public final class PromisesTest {
         due("undo() behind back()", x.undo(), 1);
         due("LETTERS", x.count(0), 2);
         x.image(0);
-        type(x, "pq", 0);
+        Check.type(x, "pq", 0);
         x.image(0);
         x.undo();
         due("undo() leaves images", x.back(0), 4);
@@ -1119,7 +1109,7 @@ public final class PromisesTest {
         due("-1", x.through(-1, 0, 1), NONE);
         due("lean 2", x.through(0, 2, 1), NONE);
         due("lean -1", x.through(0, -1, 1), NONE);
-        type(x, "XY", 2);
+        Check.type(x, "XY", 2);
         due("through both", x.through(5, 0, 2), 6);
         due("through both, at PLACE 2", x.through(2, 0, 2), 2);
         due("through both, leaning", x.through(2, 1, 2), 4);
@@ -1134,7 +1124,7 @@ public final class PromisesTest {
         due("with read()", x.through(0, 0, 2), NONE);
         StyledRuns y = typed("abcdef");
         for (int k = 0; k < 8; k++) {
-            type(y, "z", k);
+            Check.type(y, "z", k);
         }
         due("n 8", y.through(3, 0, 8), 11);
         due("n 8 at 0", y.through(0, 0, 8), 0);
@@ -1155,14 +1145,14 @@ public final class PromisesTest {
                 due("move() on", x.through(place, lean, 1), x.anchor(0, 0));
                 x.move(5, 7, 1);
                 due("move() back", x.through(place, lean, 2), x.anchor(0, 0));
-                swap(x, "XYZ", 3, 6);
+                Check.swap(x, "XYZ", 3, 6);
                 due("swap()", x.through(place, lean, 3), x.anchor(0, 0));
-                swap(x, "Q", 3, 4);
+                Check.swap(x, "Q", 3, 4);
                 due("swap() of one", x.through(place, lean, 4), x.anchor(0, 0));
                 x.paint(0, 1, 1, 0, NONE, 0);
                 x.set(0, 0, 1);
                 x.fast();
-                type(x, "rs", 4);
+                Check.type(x, "rs", 4);
                 due("all", x.through(place, lean, 8), x.anchor(0, 0));
             }
         }
@@ -1336,7 +1326,7 @@ public final class PromisesTest {
         x.undo();
         x.undo();
         due("by -4", x.count(16), 4);
-        type(x, repeated("a", 201), 0);
+        Check.type(x, repeated("a", 201), 0);
         due("by -5", x.count(17), 1);
         Check.tape(x, "[");
         x.read();
@@ -1392,7 +1382,7 @@ public final class PromisesTest {
         due("back(0)", x.status(), 0);
         x.type(0);
         due("type()", x.status(), -4);
-        type(x, "abc", 0);
+        Check.type(x, "abc", 0);
         due("type() of letters", x.status(), 0);
         x.lift(0);
         due("lift()", x.status(), -2);
@@ -1424,7 +1414,7 @@ public final class PromisesTest {
         due("move()", x.status(), 0);
         x.move(0, 1, 1);
         due("move() onto itself", x.status(), -4);
-        swap(x, "x", 0, 1);
+        Check.swap(x, "x", 0, 1);
         due("swap()", x.status(), 0);
         x.swap(0, 1);
         due("swap() of none", x.status(), -4);
@@ -1440,7 +1430,7 @@ public final class PromisesTest {
         due("read()", x.status(), -6);
         x.read();
         due("read() of an empty tape", x.status(), 0);
-        type(x, repeated("a", 201), 0);
+        Check.type(x, repeated("a", 201), 0);
         due("type() of 201", x.status(), -5);
     }
 }

@@ -240,7 +240,7 @@ public final class RefusedTest {
         goneBy("undo()", StyledRuns::undo);
         goneBy("back()", x -> x.back(0));
         goneBy("swap()", x -> typedOver(x, "z", 2, 4));
-        goneBy("read()", x -> readOver(x, "abcdef"));
+        goneBy("read()", x -> Check.read(x, "abcdef"));
     }
 
     /** SPAN 0 is over LETTERS 2 and 3 alone; whatever made it go, it is not there any more. */
@@ -263,15 +263,8 @@ public final class RefusedTest {
 
     /** By two swaps, since by one the new LETTERS lie under the SPAN. */
     private static int typedOver(StyledRuns x, String text, int from, int to) {
-        Check.tape(x, text);
-        x.swap(from, to);
-        Check.tape(x, text);
-        return x.swap(from, from + 1);
-    }
-
-    private static int readOver(StyledRuns x, String text) {
-        Check.tape(x, text);
-        return x.read();
+        Check.swap(x, text, from, to);
+        return Check.swap(x, text, from, from + 1);
     }
 
     private static void images() {
@@ -343,7 +336,7 @@ public final class RefusedTest {
         refused(() -> after(withSpans(16), StyledRuns::fast), -5, "a 17th, all went by fast()", more);
         leavesNothingRefused(withSpans(15), "a 16th", more, 15);
         leavesNothingRefused(after(withSpans(16), StyledRuns::undo), "a 16th again, 15 was undone", more, 15);
-        leavesNothingRefused(after(withSpans(16), x -> readOver(x, "ab")), "the first behind read()", more, 0);
+        leavesNothingRefused(after(withSpans(16), x -> Check.read(x, "ab")), "the first behind read()", more, 0);
     }
 
     private static void fullAnchors() {
@@ -354,7 +347,7 @@ public final class RefusedTest {
         refused(() -> after(withAnchors(12), x -> x.unpin(11)), -5, "a 13th, 11 was unpinned", more);
         leavesNothingRefused(withAnchors(11), "a 12th", more, 11);
         leavesNothingRefused(after(withAnchors(12), StyledRuns::undo), "a 12th again, 11 was undone", more, 11);
-        leavesNothingRefused(after(withAnchors(12), x -> readOver(x, "ab")), "the first behind read()", more, 0);
+        leavesNothingRefused(after(withAnchors(12), x -> Check.read(x, "ab")), "the first behind read()", more, 0);
     }
 
     private static void leavesNothingRefused(StyledRuns x, String call, ToIntFunction<StyledRuns> act, int want) {

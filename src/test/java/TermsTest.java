@@ -289,11 +289,9 @@ public final class TermsTest {
         for (int sides = 0; sides < 4; sides++) {
             StyledRuns x = Check.typed("abc");
             x.lay(0, 3, 0, 1, 0, NONE, 0, sides);
-            Check.tape(x, "X");
-            x.type(0);
+            Check.type(x, "X", 0);
             duePlaces("sides " + sides + ", at 0", x, 0, sides % 2, 4);
-            Check.tape(x, "Y");
-            x.type(4);
+            Check.type(x, "Y", 4);
             duePlaces("sides " + sides + ", at the end", x, 0, sides % 2, sides >= 2 ? 5 : 4);
         }
         check.head("II: an ANCHOR at p goes on if its LEAN is 1");
@@ -302,8 +300,7 @@ public final class TermsTest {
             for (int place = 0; place <= 6; place++) {
                 x.pin(place, lean);
             }
-            Check.tape(x, "XY");
-            x.type(3);
+            Check.type(x, "XY", 3);
             int[] due = {0, 1, 2, 3 + 2 * lean, 6, 7, 8};
             for (int k = 0; k < due.length; k++) {
                 due("PLACE " + k + ", lean " + lean, x.anchor(k, 0), due[k]);
@@ -315,27 +312,22 @@ public final class TermsTest {
     private static void newLettersHavePaint() {
         check.head("II: New LETTERS have the PAINT of the LETTER ahead of p, PLAIN without one");
         StyledRuns x = Check.marked("[b][c2][z9]a[/z][/c][/b][i]b[/i]");
-        Check.tape(x, "XY");
-        x.type(0);
+        Check.type(x, "XY", 0);
         due("at 0, PLAIN", paintOf(x, 0), 4);
         due("at 0, the second", paintOf(x, 1), 4);
         due("what was there", paintOf(x, 2), 129);
-        Check.tape(x, "XY");
-        x.type(3);
+        Check.type(x, "XY", 3);
         due("behind the painted one", paintOf(x, 3), 129);
         due("the second", paintOf(x, 4), 129);
         due("what was behind", paintOf(x, 5), 204);
-        Check.tape(x, "X");
-        x.type(6);
+        Check.type(x, "X", 6);
         due("at the end", paintOf(x, 6), 204);
         StyledRuns y = Check.typed("ab");
         y.lay(0, 1, 0, 1, 0, 3, 1, 0);
-        Check.tape(y, "X");
-        y.type(1);
+        Check.type(y, "X", 1);
         due("PAINT, not STYLE", y.style(1, 6), 4);
         StyledRuns z = Check.marked("[u]a[/u]b");
-        Check.tape(z, "X");
-        z.type(1);
+        Check.type(z, "X", 1);
         due("at 1, of LETTER 0", paintOf(z, 1), 404);
         due("what was at 1", paintOf(z, 2), 4);
         due("onto a text that was emptied", emptiedAndTyped().style(0, 6), 4);
@@ -344,8 +336,7 @@ public final class TermsTest {
     private static StyledRuns emptiedAndTyped() {
         StyledRuns x = Check.marked("[b]ab[/b]");
         x.cut(0, 2);
-        Check.tape(x, "c");
-        x.type(0);
+        Check.type(x, "c", 0);
         return x;
     }
 

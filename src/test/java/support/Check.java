@@ -56,6 +56,22 @@ final class Check {
         return number;
     }
 
+    /** The text comes onto the tape, and from there as letters at a place. */
+    static int type(StyledRuns x, String text, int place) {
+        tape(x, text);
+        return x.type(place);
+    }
+
+    static int swap(StyledRuns x, String text, int from, int to) {
+        tape(x, text);
+        return x.swap(from, to);
+    }
+
+    static int read(StyledRuns x, String text) {
+        tape(x, text);
+        return x.read();
+    }
+
     /** One call a byte, since an object is used for 512 calls at most. */
     static String tapeOf(StyledRuns x) {
         return signs(x::tape, 400);
@@ -78,16 +94,14 @@ final class Check {
     /** A new object with these letters, all plain. */
     static StyledRuns typed(String letters) {
         StyledRuns x = new StyledRuns();
-        tape(x, letters);
-        x.type(0);
+        type(x, letters, 0);
         return x;
     }
 
     /** A new object with what a marked text says. */
     static StyledRuns marked(String text) {
         StyledRuns x = new StyledRuns();
-        tape(x, text);
-        x.read();
+        read(x, text);
         return x;
     }
 }
